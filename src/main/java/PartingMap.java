@@ -19,6 +19,7 @@ public final class PartingMap {
     private final Triples sights = new Triples();
     private final Course told = new Course();
     private final Course trial = new Course();
+    private final Choice choice = new Choice();
     private final Row[] rows = new Row[SHEETS];
     private final int[] tally = new int[QUARTERS * HOUSES];
     private final int[] moversBySubset = new int[SUBSETS];
@@ -217,8 +218,7 @@ public final class PartingMap {
         if (!isPerson(person) || !isBelow(what, 2)) {
             return BAD;
         }
-        int which = NONE;
-        int fewest = 0;
+        choice.clear();
         for (int house = 0; house < HOUSES; house++) {
             if (!text.isFreeFor(person, house)) {
                 continue;
@@ -226,48 +226,37 @@ public final class PartingMap {
             trial.load(text, events, ALL_EVENTS);
             trial.homes[person] = house;
             trial.run();
-            if (which == NONE || trial.moves < fewest) {
-                which = house;
-                fewest = trial.moves;
-            }
+            choice.offer(house, trial.moves);
         }
-        return what == 0 ? which : fewest;
+        return what == 0 ? choice.which : choice.fewest;
     }
 
     public int think(int person, int what) {
         if (!isPerson(person) || !isBelow(what, 2)) {
             return BAD;
         }
-        int which = NONE;
-        int fewest = 0;
+        choice.clear();
         for (int question = 0; question < QUESTIONS; question++) {
             trial.load(text, events, ALL_EVENTS);
             trial.plan(question, 0, person);
             trial.run();
-            if (which == NONE || trial.moves < fewest) {
-                which = question;
-                fewest = trial.moves;
-            }
+            choice.offer(question, trial.moves);
         }
-        return what == 0 ? which : fewest;
+        return what == 0 ? choice.which : choice.fewest;
     }
 
     public int rest(int what) {
         if (!isBelow(what, 2)) {
             return BAD;
         }
-        int which = NONE;
-        int fewest = 0;
+        choice.clear();
         for (int quarter = 0; quarter < QUARTERS; quarter++) {
             trial.load(text, events, ALL_EVENTS);
             trial.plan(KIND_HOLIDAY, quarter, 0);
             trial.run();
-            if (which == NONE || trial.moves < fewest) {
-                which = quarter;
-                fewest = trial.moves;
-            }
+            choice.offer(quarter, trial.moves);
         }
-        return what == 0 ? which : fewest;
+        return what == 0 ? choice.which : choice.fewest;
     }
 
     public int spare(int i) {
@@ -925,6 +914,24 @@ public final class PartingMap {
                 }
             }
             return true;
+        }
+    }
+
+    /** The candidate with the fewest moves among those offered; the least of like ones, if they come in order. */
+    private static final class Choice {
+        int which = NONE;
+        int fewest;
+
+        void clear() {
+            which = NONE;
+            fewest = 0;
+        }
+
+        void offer(int candidate, int moves) {
+            if (which == NONE || moves < fewest) {
+                which = candidate;
+                fewest = moves;
+            }
         }
     }
 

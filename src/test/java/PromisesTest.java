@@ -66,6 +66,7 @@ public final class PromisesTest {
         }
         due("1 new: fault", x.fault(), -1);
         due("1 new: first", x.first(0), -1);
+        due("1 new: first", x.first(1), -1);
         for (int s = 0; s < 4; s++) {
             due("1 new: lose(" + s + ")", x.lose(s), -11);
         }
