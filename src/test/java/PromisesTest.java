@@ -760,6 +760,8 @@ public final class PromisesTest {
         for (String people : new String[] {TALKER, EIGHT_ALIKE, "s30;t21;s32;n33;t75;s76;t08", "s0", "n05;s06"}) {
             PartingMap x = told(people);
             due("36 digest of " + people, x.digest(), byHand(x));
+            // Another object, since nothing is promised behind the 512th call.
+            x = told(people);
             x.event(0, 4, 0);
             x.event(3, 5, 0);
             x.event(1, 0, 1);

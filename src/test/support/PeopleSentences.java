@@ -97,7 +97,7 @@ final class PeopleSentences extends Sentences {
         });
     }
 
-    /** With any other byte behind the start its place is the fault; a text of the ended length is well, else it is not ended. */
+    /** Any other byte behind the start is the fault; of the ended length a text is well, else it is not ended. */
     private static void dueOnly(String start, String bytes, int ended) {
         for (int b = 0; b <= 255; b++) {
             PartingMap x = told(start);

@@ -3,7 +3,7 @@ import java.util.Random;
 
 /** What one had better do: part 3, and promises 18 to 21. */
 final class PlanSentences extends Sentences {
-    /** Nobody agrees with anybody near; but whoever comes to, as 0 by views 0, finds no house: 4 and 7 are near both views. */
+    /** Nobody agrees with anybody near; whoever comes to, as 0 by views 0, can't flee: 4 and 7 are near both views. */
     private static final String AT_PEACE = "s21;s00;s12;s03;s15;s06;s18;s09";
     /** As AT_PEACE, but 0 needs two changes, on questions 1 and 2, to come to views 0. */
     private static final String TWO_STEPS = "s61;s00;s12;s03;s15;s06;s18;s09";

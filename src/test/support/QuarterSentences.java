@@ -1,6 +1,6 @@
 /** What happens in a quarter, and what is told of it: Terms, part 2, and promises 10 to 17. */
 final class QuarterSentences extends Sentences {
-    /** Houses 4 and 7 are free, and each is near one of either view: 0, in house 1, can't flee, nor can 1, in house 0. */
+    /** Houses 4 and 7 are free, and near one of either view each: 0, in house 1, and 1, in house 0, can't flee. */
     private static final String TWO_STUCK = "s01;s00;s12;s03;s15;s06;s18;s09";
     /** As TWO_STUCK, but 0 comes round by turns to those in houses 0 and 2, and stays. */
     private static final String TALKED_ROUND = "t11;s00;s12;s03;s15;s06;s18;s09";

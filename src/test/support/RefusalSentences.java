@@ -107,7 +107,8 @@ final class RefusalSentences extends Sentences {
     }
 
     private static void eachRefusal() {
-        says("Terms", "BAD -2 (a number not as told, no such thing), NULL, NOT -3 (as told), FULL -4, other FINDINGS.", () -> {
+        says("Terms", "BAD -2 (a number not as told, no such thing), NULL, NOT -3 (as told), FULL -4,"
+                + " other FINDINGS.", () -> {
             due("BAD", PartingMap.BAD, -2);
             due("NOT", PartingMap.NOT, -3);
             due("FULL", PartingMap.FULL, -4);

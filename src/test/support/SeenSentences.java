@@ -4,7 +4,7 @@ import java.util.stream.IntStream;
 
 /** What was seen, chances and decades: part 4, fractions and lots, and promises 22 to 28. */
 final class SeenSentences extends Sentences {
-    /** Alike from quarter 3 on by the first change, and by the second one no more: 0 stays in 5, without it 0 flees to 4. */
+    /** By the first change 0 agrees with 1, by the second no more: it stays in 5, but without the second flees to 4. */
     private static final int[] THERE_AND_BACK = {0, 3, 0, 1, 3, 0};
     /** 5 agrees with nobody near; with views 1 it flees to 3, with views 2 to 7. */
     private static final String BETWEEN = "s05;s16;s24";
@@ -55,7 +55,8 @@ final class SeenSentences extends Sentences {
             due("a ninth", x.seen(0, 0, 0), FULL);
             due("count(7)", x.count(7), 8);
         });
-        says("Terms", "behind a QUARTER a PERSON (0 to 7; of one that there is not it never comes out so) was in a HOUSE.", () -> {
+        says("Terms", "behind a QUARTER a PERSON (0 to 7; of one that there is not it never comes out so)"
+                + " was in a HOUSE.", () -> {
             for (int p = -1; p <= 8; p++) {
                 due("seen(0, " + p + ", 0)", new PartingMap().seen(0, p, 0), p >= 0 && p <= 7 ? 1 : BAD);
             }
@@ -78,7 +79,8 @@ final class SeenSentences extends Sentences {
     }
 
     private static void never() {
-        says("Terms", "NEVER: EVENTS each of which, had it alone not been, makes all that was SEEN come out so, as bits.", () -> {
+        says("Terms", "NEVER: EVENTS each of which, had it alone not been, makes all that was SEEN come out so,"
+                + " as bits.", () -> {
             due("no events", told("s05;s06").never(), 0);
             due("nothing seen", told("s05;s16", THERE_AND_BACK).never(), 3);
             due("without the second", seeing(told("s05;s16", THERE_AND_BACK), 3, 0, 4).never(), 2);
@@ -262,7 +264,7 @@ final class SeenSentences extends Sentences {
         });
     }
 
-    /** Seed, then the lots that it brings: a kind, a quarter, one of three people. Worked out apart, with long numbers. */
+    /** A seed and the lots that it brings: a kind, a quarter, one of three people; worked out apart, with long numbers. */
     private static final int[][] LOTS = {{0, 0, 12, 0}, {1, 2, 14, 0}, {-1, 1, 9, 1}, {LEAST_INT, 0, 12, 1},
         {MOST_INT, 1, 9, 0}, {7, 0, 14, 2}, {8, 2, 0, 1}, {286434947, 3, 3, 1}, {230538014, 3, 9, 2},
         {1742513795, 1, 13, 1}, {-404969853, 1, 13, 2}, {632137347, 2, 6, 1}, {178408262, 1, 1, 0},

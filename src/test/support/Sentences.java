@@ -127,7 +127,8 @@ abstract class Sentences {
     }
 
     /** The call answers so, and but for the finding (0: it stays) what the object knows is as if it was never made. */
-    static void refused(String call, Supplier<PartingMap> maker, ToLongFunction<PartingMap> act, long want, int finding) {
+    static void refused(String call, Supplier<PartingMap> maker, ToLongFunction<PartingMap> act, long want,
+            int finding) {
         PartingMap x = maker.get();
         PartingMap y = maker.get();
         due(call, act.applyAsLong(x), want);
