@@ -14,16 +14,10 @@ import java.util.regex.Pattern;
 
 /** Holds the source and the compiled class against those rules of LANGUAGE.md that a simple look can tell. */
 public final class LanguageTest {
-    private static final String FACE = "type(int) wipe() undo() fault() person(int,int) event(int,int,int) back() "
-            + "read(int) at(int,int,int) house(int,int) pairs(int,int) bored(int) sum(int) first(int) rooted() "
-            + "friends(int) settle(int,int) think(int,int) rest(int) spare(int) seen(int,int,int) forget() never() "
-            + "was(int,int) ask(int) chance(int,int,int):long decades(int,int,int) sheet(int,int,int) lose(int) "
-            + "lay(int,int,int,int) get(int,int,int) copy(int,int,int,int,int) write(int,int) count(int) "
-            + "digest():long";
     private static int wrong;
 
     public static void main(String[] args) throws Exception {
-        face();
+        face(Files.readString(Path.of("../shared/DOC.md")));
         nested();
         source(Files.readString(Path.of("src/main/java/PartingMap.java")));
         System.out.println(wrong == 0 ? "the rules looked at are kept" : wrong + " rules are broken");
@@ -39,19 +33,19 @@ public final class LanguageTest {
         }
     }
 
-    private static void face() {
+    private static void face(String document) {
         Set<String> found = new TreeSet<>();
         Set<String> open = new TreeSet<>();
         for (Method m : PartingMap.class.getDeclaredMethods()) {
             if (Modifier.isPublic(m.getModifiers())) {
-                String sign = Arrays.toString(m.getParameterTypes()).replace("[", "(").replace("]", ")");
-                found.add(m.getName() + sign.replace(" ", "") + (m.getReturnType() == long.class ? ":long" : ""));
+                demand(!Modifier.isStatic(m.getModifiers()) && m.getExceptionTypes().length == 0, "1, a call: " + m);
+                found.add(m.getReturnType() + " " + m.getName() + Arrays.toString(m.getParameterTypes()));
                 open.add(m.getName());
             } else {
                 demand(Modifier.isPrivate(m.getModifiers()), "1, private: " + m);
             }
         }
-        demand(found.equals(new TreeSet<>(Arrays.asList(FACE.split(" ")))), "1, the face: " + found);
+        demand(found.equals(callsOf(document)), "1, the face: " + found);
         for (Class<?> c : all()) {
             for (Method m : c.getDeclaredMethods()) {
                 demand(c == PartingMap.class && Modifier.isPublic(m.getModifiers()) || !open.contains(m.getName()),
@@ -60,12 +54,32 @@ public final class LanguageTest {
             }
         }
         Constructor<?>[] makers = PartingMap.class.getDeclaredConstructors();
-        demand(makers.length == 1 && Modifier.isPublic(makers[0].getModifiers()), "1, the constructor");
+        demand(makers.length == 1 && Modifier.isPublic(makers[0].getModifiers())
+                && makers[0].getParameterCount() == 0, "1, the constructor");
         demand(Modifier.isFinal(PartingMap.class.getModifiers()), "1, final");
+        constants();
+    }
+
+    /** The calls of the document's face, each written as reflection writes it. */
+    private static Set<String> callsOf(String document) {
+        Set<String> calls = new TreeSet<>();
+        Matcher call = Pattern.compile("(?m)^    public (\\w+) (\\w+)\\(([^)]*)\\);$").matcher(document);
+        while (call.find()) {
+            String types = call.group(3).replaceAll("(\\w+) \\w+", "$1");
+            calls.add(call.group(1) + " " + call.group(2) + "[" + types + "]");
+        }
+        demand(calls.size() == 35, "the document's face has " + calls.size() + " calls");
+        return calls;
+    }
+
+    private static void constants() {
+        List<String> names = List.of("NONE", "BAD", "NOT", "FULL");
+        demand(PartingMap.NONE == -1 && PartingMap.BAD == -2 && PartingMap.NOT == -3 && PartingMap.FULL == -4,
+                "1, the constants");
         for (Field f : PartingMap.class.getDeclaredFields()) {
-            boolean constant = List.of("NONE", "BAD", "NOT", "FULL").contains(f.getName());
-            demand(constant == Modifier.isPublic(f.getModifiers()), "1, fields: " + f);
-            demand(constant || Modifier.isPrivate(f.getModifiers()), "1, fields: " + f);
+            boolean constant = names.contains(f.getName());
+            demand(constant ? Modifier.isPublic(f.getModifiers()) && f.getType() == int.class
+                    : Modifier.isPrivate(f.getModifiers()), "1, fields: " + f);
         }
     }
 
